@@ -1,0 +1,130 @@
+/** Promises 36 to 38: undo and the snapshot. */
+public final class UndoTest {
+    private static final Class<?> BAD_STATE = IllegalStateException.class;
+    private static final Due due = new Due();
+
+    public static void main(String[] args) {
+        promise36UndoEachChange();
+        promise36UndoMost();
+        promise36UndoWhatIsNoChange();
+        promise37Save();
+        promise38Restore();
+        due.end();
+    }
+
+    private static void promise36UndoEachChange() {
+        CloudDeeds x = new CloudDeeds();
+        due.thrown("nothing to undo", BAD_STATE, x::undo);
+        Deeds.run(x, "cloud 0 0 3;cloud 0 3 1;title 0>0;dawn;vine 1>1");
+        String[] texts = {"cloud 2 2 2", "vine 0>3", "title 1>1", "sell 0>2=9", "pledge 0>1", "redeem 0", "wind 2",
+            "hail 0", "dawn"};
+        Due.Call[] changes = {() -> x.cloud(2, 2, 2), () -> x.vine(0, 3), () -> x.title(1, 1), () -> x.sell(0, 2, 9),
+            () -> x.pledge(0, 1), () -> x.redeem(0), () -> x.wind(2), () -> x.hail(0), x::dawn};
+        for (int n = 0; n < changes.length; n++) {
+            String before = Deeds.office(x);
+            if (texts[n].startsWith("redeem")) {
+                x.pledge(0, 1);
+                before = Deeds.office(x);
+            }
+            changes[n].make();
+            String after = Deeds.office(x);
+            due.holds(texts[n] + " is a change", !after.equals(before));
+            x.undo();
+            due.equal(texts[n] + " is undone", Deeds.office(x), before);
+            Deeds.run(x, texts[n]);
+            due.equal(texts[n] + " as an order", Deeds.office(x), after);
+            x.undo();
+            due.equal(texts[n] + " is undone as an order", Deeds.office(x), before);
+            if (texts[n].startsWith("redeem")) {
+                x.undo();
+            }
+        }
+        due.equal("undo", x.undo(), 0);
+        due.equal("as new", Deeds.office(x), Deeds.office(new CloudDeeds()));
+        due.thrown("nothing to undo", BAD_STATE, x::undo);
+    }
+
+    private static void promise36UndoMost() {
+        CloudDeeds x = new CloudDeeds();
+        for (int n = 1; n <= 12; n++) {
+            x.dawn();
+            due.equal("changes", x.account(12), Math.min(n, 8));
+        }
+        for (int n = 1; n <= 8; n++) {
+            due.equal("undo", x.undo(), 8 - n);
+            due.equal("dawns", x.account(4), 12 - n);
+        }
+        due.thrown("nothing to undo", BAD_STATE, x::undo);
+        due.equal("dawns", x.account(4), 4);
+        x.cloud(0, 0, 1);
+        x.cloud(0, 0, 2);
+        due.equal("undo", x.undo(), 1);
+        x.cloud(0, 0, 3);
+        due.equal("changes", x.account(12), 2);
+        x.undo();
+        due.equal("undo", x.undo(), 0);
+        due.equal("clouds", x.account(0), 0);
+    }
+
+    private static void promise36UndoWhatIsNoChange() {
+        CloudDeeds x = new CloudDeeds();
+        x.cloud(0, 0, 1);
+        Deeds.feed(x, "dawn;y");
+        due.thrown("run", IllegalArgumentException.class, x::run);
+        Deeds.feed(x, "dawn;vine 0-");
+        due.thrown("run", UnsupportedOperationException.class, x::run);
+        due.thrown("vine", UnsupportedOperationException.class, () -> x.vine(0, -1));
+        x.line(0);
+        x.would(0, 1);
+        x.bestWind(0);
+        x.save();
+        x.isBalanced();
+        Deeds.feed(x, "abc");
+        due.equal("changes", x.account(12), 1);
+        due.equal("undo", x.undo(), 0);
+        due.equal("clouds", x.account(0), 0);
+        due.equal("the tape does not go back", x.account(11), 3);
+        due.equal("the line does not go back", x.character(0), '0');
+        due.equal("the fault does not go back", x.faultPosition(), 5);
+        due.kept("the reason does not go back", x, 4, -1);
+    }
+
+    private static void promise37Save() {
+        CloudDeeds x = new CloudDeeds();
+        due.equal("save", x.save(), 0);
+        x.cloud(0, 0, 2);
+        x.cloud(1, 0, 1);
+        due.equal("save in place of it", x.save(), 2);
+        due.equal("save is no change", x.account(12), 2);
+        x.hail(1);
+        due.equal("restore the latest", x.restore(), 2);
+        due.equal("save", x.save(), 2);
+    }
+
+    private static void promise38Restore() {
+        CloudDeeds x = new CloudDeeds();
+        due.thrown("nothing was saved", BAD_STATE, x::restore);
+        Deeds.run(x, "cloud 0 0 3;cloud 1 3 1;title 0>0;pledge 0>2;vine 1>1;dawn");
+        x.undo();
+        Deeds.run(x, "cloud 0 0 3;cloud 1 3 1;title 0>0;pledge 0>2;vine 1>1;dawn");
+        String before = Deeds.office(x);
+        x.save();
+        Deeds.run(x, "wind 1;dawn;hail 1;hail 1;hail 2;vine 5>3");
+        Deeds.feed(x, "xyz");
+        due.equal("restore", x.restore(), 2);
+        due.equal("nothing can be undone", x.account(12), 0);
+        due.thrown("nothing can be undone", BAD_STATE, x::undo);
+        due.equal("the tape stays", x.account(11), 3);
+        due.thrown("run", IllegalArgumentException.class, x::run);
+        String restored = Deeds.office(x);
+        due.equal("the office", restored, before.substring(0, before.length() - 1) + "0");
+        x.dawn();
+        x.hail(0);
+        due.equal("undo", x.undo(), 1);
+        due.equal("restore again", x.restore(), 2);
+        due.equal("the office again", Deeds.office(x), restored);
+        x.cloud(5, 5, 5);
+        due.equal("undo after restore", x.undo(), 0);
+        due.equal("the office again", Deeds.office(x), restored);
+    }
+}
