@@ -417,6 +417,13 @@ public final class TextsTest {
             x.dawn();
         }
         due.equal("changes that can be undone", x.account(12), 8);
+        x.cloud(0, 0, 1);
+        due.equal("clouds", x.account(0), 3);
+        due.equal("titles", x.account(1), 2);
+        x.pledge(0, 1);
+        due.equal("pledged", x.account(2), 1);
+        x.pledge(1, 2);
+        due.equal("pledged", x.account(2), 2);
         for (int what : new int[] {-1, 13, 99, Integer.MIN_VALUE, Integer.MAX_VALUE}) {
             due.thrown("account " + what, IllegalArgumentException.class, () -> x.account(what));
         }

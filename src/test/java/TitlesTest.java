@@ -66,6 +66,12 @@ public final class TitlesTest {
         due.equal("cloud again", x.cloud(3, 2, 4), 5);
         due.equal("its line", Deeds.line(x, 5), "5@3:2/4");
         due.equal("its title shape", x.cloudOf(5, 4), -1);
+        CloudDeeds y = new CloudDeeds();
+        y.cloud(0, 0, 1);
+        y.title(0, 2);
+        y.hail(0);
+        y.cloud(1, 0, 2);
+        due.equal("without the title of the one that is gone", Deeds.line(y, 0), "0@1:0/2");
     }
 
     private static void promise03Vine() {

@@ -5,6 +5,7 @@ public final class UndoTest {
 
     public static void main(String[] args) {
         promise36UndoEachChange();
+        promise36UndoDawns();
         promise36UndoMost();
         promise36UndoWhatIsNoChange();
         promise37Save();
@@ -42,6 +43,31 @@ public final class UndoTest {
         due.equal("undo", x.undo(), 0);
         due.equal("as new", Deeds.office(x), Deeds.office(new CloudDeeds()));
         due.thrown("nothing to undo", BAD_STATE, x::undo);
+    }
+
+    private static void promise36UndoDawns() {
+        CloudDeeds x = new CloudDeeds();
+        for (int n = 0; n < 6; n++) {
+            x.cloud(0, 0, 1);
+            x.dawn();
+        }
+        due.equal("six dawns", Deeds.dawnLine(x, 0) + Deeds.dawnLine(x, 4), "--------");
+        x.undo();
+        due.equal("the latest then", Deeds.dawnLine(x, 0), "-----");
+        due.equal("the first again", Deeds.dawnLine(x, 4), "-");
+        due.equal("the second", x.recorded(3, 1), -1);
+        x.undo();
+        x.undo();
+        due.equal("the latest then", Deeds.dawnLine(x, 0), "----");
+        due.thrown("a dawn that is undone", java.util.NoSuchElementException.class, () -> x.dawnLine(4));
+        x.save();
+        x.hail(0);
+        x.dawn();
+        due.equal("a dawn without clouds", x.dawnLine(0), 0);
+        x.restore();
+        due.equal("the latest of the snapshot", Deeds.dawnLine(x, 0), "----");
+        due.equal("the first of the snapshot", Deeds.dawnLine(x, 3), "-");
+        due.thrown("a dawn that is no more", java.util.NoSuchElementException.class, () -> x.dawnLine(4));
     }
 
     private static void promise36UndoMost() {

@@ -7,6 +7,7 @@ public final class WeatherTest {
         promise08WindRefused();
         promise09Hail();
         promise09HailPledged();
+        promises08To10SixClouds();
         promise10Dawn();
         promise10DawnPays();
         promise10DawnEndsPledges();
@@ -105,6 +106,35 @@ public final class WeatherTest {
         due.equal("clouds", x.account(0), 2);
         due.equal("foreclosed so far", x.account(7), 3);
         due.equal("gone", x.account(8), 1);
+    }
+
+    private static void promises08To10SixClouds() {
+        CloudDeeds x = new CloudDeeds();
+        for (int n = 0; n < 6; n++) {
+            x.cloud(n, n, 3);
+            x.title(n, n % 4);
+            x.vine(n, (n + 1) % 4);
+        }
+        due.equal("hail", x.hail(5), 0);
+        due.equal("line", Deeds.line(x, 5), "5@5:5/2=1");
+        due.equal("claimed", x.dawn(), 0);
+        due.equal("record", Deeds.dawnLine(x, 0), "012301");
+        due.equal("wind", x.wind(1), 6);
+        due.equal("claimed", x.dawn(), 6);
+        due.equal("record", Deeds.dawnLine(x, 0), "230121");
+        due.equal("record of the first", Deeds.dawnLine(x, 1), "012301");
+        due.equal("lapsed", x.account(5), 6);
+        due.equal("paid", x.account(10), 6);
+        x.pledge(5, 0);
+        due.equal("foreclosed", x.hail(0), 1);
+        due.equal("owner", x.cloudOf(5, 3), 0);
+        due.equal("greatest", x.greatest(5), 5);
+        due.equal("ranked", x.ranked(0), 2);
+        due.equal("ranked, with fewer coins", x.ranked(1), 0);
+        due.holds("balanced", x.isBalanced());
+        for (int n = 0; n < 6; n++) {
+            due.equal("recorded", x.recorded(1, n), n % 4);
+        }
     }
 
     private static void promise10Dawn() {

@@ -1,0 +1,281 @@
+import com.sun.source.tree.*;
+import com.sun.source.util.JavacTask;
+import com.sun.source.util.SourcePositions;
+import com.sun.source.util.TreePathScanner;
+import com.sun.source.util.Trees;
+import java.nio.file.Files;
+import java.nio.file.Path;
+import java.util.HashMap;
+import java.util.List;
+import java.util.Map;
+import java.util.Set;
+import java.util.TreeSet;
+import javax.lang.model.element.Element;
+import javax.lang.model.element.ElementKind;
+import javax.lang.model.element.ExecutableElement;
+import javax.lang.model.element.Modifier;
+import javax.lang.model.element.TypeElement;
+import javax.lang.model.type.TypeKind;
+import javax.lang.model.type.TypeMirror;
+import javax.tools.JavaCompiler;
+import javax.tools.JavaFileObject;
+import javax.tools.StandardJavaFileManager;
+import javax.tools.ToolProvider;
+
+/** The rules of LANGUAGE.md, and the document's face, as far as they can be seen in the source. */
+public final class LanguageTest {
+    private static final Path SOURCE = Path.of("src/main/java/CloudDeeds.java");
+    private static final Path DOCUMENT = Path.of("../shared/DOC.md");
+    private static final Set<String> LIBRARY = Set.of("String.length()", "String.charAt(int)", "String.isEmpty()",
+        "StringBuilder.append(char)", "StringBuilder.append(int)", "StringBuilder.length()",
+        "StringBuilder.setLength(int)", "StringBuilder.charAt(int)", "Math.min(int,int)", "Math.abs(int)",
+        "Math.floorMod(int,int)", "System.arraycopy(java.lang.Object,int,java.lang.Object,int,int)");
+    private static final Set<String> EXCEPTIONS = Set.of("IllegalStateException", "IllegalArgumentException",
+        "IndexOutOfBoundsException", "ArithmeticException", "UnsupportedOperationException", "NoSuchElementException",
+        "RuntimeException");
+    private static final Set<String> CAUGHT = Set.of("IllegalStateException", "IllegalArgumentException",
+        "UnsupportedOperationException", "NoSuchElementException");
+    private static final Due due = new Due();
+
+    public static void main(String[] args) throws Exception {
+        face();
+        JavaCompiler compiler = ToolProvider.getSystemJavaCompiler();
+        try (StandardJavaFileManager files = compiler.getStandardFileManager(null, null, null)) {
+            Iterable<? extends JavaFileObject> sources = files.getJavaFileObjects(SOURCE);
+            JavacTask task = (JavacTask) compiler.getTask(null, files, null, List.of("-proc:none"), null, sources);
+            CompilationUnitTree unit = task.parse().iterator().next();
+            task.analyze();
+            due.holds("no package", unit.getPackage() == null);
+            due.equal("classes of the file", unit.getTypeDecls().size(), 1);
+            Rules rules = new Rules(Trees.instance(task), unit);
+            rules.scan(unit, null);
+            rules.end();
+        }
+        due.end();
+    }
+
+    /** Each member of the document's face stands in the source with the same words, and no other is public. */
+    private static void face() throws Exception {
+        String source = Files.readString(SOURCE);
+        int members = 0;
+        boolean isFace = false;
+        for (String line : Files.readAllLines(DOCUMENT)) {
+            isFace = line.startsWith("public final class") || isFace && !line.startsWith("```");
+            if (isFace && line.startsWith("    public ")) {
+                members++;
+                due.holds("in the source: " + line, source.contains("\n" + line.replace(";", " {\n")));
+            }
+        }
+        due.equal("members of the face", members, 38);
+        due.equal("public members", source.split("\n    public ", -1).length - 1, members);
+        for (char c : source.toCharArray()) {
+            due.holds("the source is ASCII", c < 128);
+        }
+    }
+
+    private static final class Rules extends TreePathScanner<Void, Void> {
+        private final Trees trees;
+        private final CompilationUnitTree unit;
+        private final SourcePositions positions;
+        private final Map<Element, Set<Element>> calls = new HashMap<>();
+        private ExecutableElement method = null;
+        private int classes = 0;
+        private int throwing = 0;
+
+        Rules(Trees trees, CompilationUnitTree unit) {
+            this.trees = trees;
+            this.unit = unit;
+            this.positions = trees.getSourcePositions();
+        }
+
+        private void refuse(Tree tree, String rule) {
+            due.holds("line " + line(positions.getStartPosition(unit, tree)) + ": " + rule, false);
+        }
+
+        private void demand(Tree tree, boolean holds, String rule) {
+            if (!holds) {
+                refuse(tree, rule);
+            }
+        }
+
+        private long line(long position) {
+            return unit.getLineMap().getLineNumber(position);
+        }
+
+        private Element here() {
+            return trees.getElement(getCurrentPath());
+        }
+
+        private boolean isOwn(Element element) {
+            for (Element e = element; e != null; e = e.getEnclosingElement()) {
+                if (e.getKind() == ElementKind.CLASS && e.getSimpleName().contentEquals("CloudDeeds")) {
+                    return true;
+                }
+            }
+            return false;
+        }
+
+        @Override
+        public Void visitClass(ClassTree tree, Void none) {
+            classes++;
+            int fields = 0;
+            Element own = here();
+            Set<Modifier> modifiers = own.getModifiers();
+            boolean isFace = own.getSimpleName().contentEquals("CloudDeeds");
+            demand(tree, !isFace ? !modifiers.contains(Modifier.PUBLIC) && modifiers.contains(Modifier.STATIC)
+                : modifiers.contains(Modifier.FINAL), "rule 1, the modifiers of a class");
+            for (Element member : own.getEnclosedElements()) {
+                if (member.getKind() == ElementKind.FIELD) {
+                    boolean isStatic = member.getModifiers().contains(Modifier.STATIC);
+                    fields += isStatic ? 0 : 1;
+                    demand(tree, member.getModifiers().contains(Modifier.PRIVATE), "a field is not private: " + member);
+                    demand(tree, !isStatic || member.getModifiers().contains(Modifier.FINAL), "rule 5, " + member);
+                }
+                demand(tree, member.getKind() != ElementKind.STATIC_INIT, "rule 5, a static block");
+                demand(tree, !isFace || member.getModifiers().contains(Modifier.PRIVATE)
+                    || member.getModifiers().contains(Modifier.PUBLIC), "rule 1, neither private nor public: " + member);
+            }
+            demand(tree, fields <= 20, "rule 11, too many fields");
+            return super.visitClass(tree, none);
+        }
+
+        @Override
+        public Void visitMethod(MethodTree tree, Void none) {
+            ExecutableElement outer = method;
+            method = (ExecutableElement) here();
+            calls.computeIfAbsent(method, m -> new java.util.HashSet<>());
+            long lines = line(positions.getEndPosition(unit, tree)) - line(positions.getStartPosition(unit, tree)) + 1;
+            demand(tree, lines <= 60, "rule 11, a long method");
+            demand(tree, tree.getParameters().size() <= 7, "rule 11, too many parameters");
+            demand(tree, !Set.of("equals", "hashCode", "toString").contains("" + tree.getName()), "rule 6, a name");
+            super.visitMethod(tree, none);
+            method = outer;
+            return null;
+        }
+
+        @Override
+        public Void visitMethodInvocation(MethodInvocationTree tree, Void none) {
+            Element called = here();
+            TypeElement owner = (TypeElement) called.getEnclosingElement();
+            boolean isOfEnum = owner.getKind() == ElementKind.ENUM || "super".equals("" + tree.getMethodSelect());
+            if (isOwn(owner) && method != null) {
+                calls.get(method).add(called);
+            }
+            // A StringBuilder has some of its methods from a class that is not public.
+            String name = (owner.getSimpleName() + "." + called).replace("AbstractStringBuilder", "StringBuilder");
+            demand(tree, isOwn(owner) || isOfEnum || LIBRARY.contains(name), "rule 4, " + name);
+            return super.visitMethodInvocation(tree, none);
+        }
+
+        @Override
+        public Void visitNewClass(NewClassTree tree, Void none) {
+            boolean isMadeOnce = method == null || method.getKind() == ElementKind.CONSTRUCTOR;
+            demand(tree, isMadeOnce || throwing > 0, "an object is made by a call");
+            return super.visitNewClass(tree, none);
+        }
+
+        @Override
+        public Void visitNewArray(NewArrayTree tree, Void none) {
+            demand(tree, method == null, "an array is made by a call");
+            return super.visitNewArray(tree, none);
+        }
+
+        @Override
+        public Void visitThrow(ThrowTree tree, Void none) {
+            boolean isNew = tree.getExpression() instanceof NewClassTree;
+            demand(tree, isNew, "rule 6, a throw of what is not new");
+            demand(tree, method.getKind() != ElementKind.CONSTRUCTOR, "rule 6, a throw in a constructor");
+            if (isNew) {
+                String name = "" + ((NewClassTree) tree.getExpression()).getIdentifier();
+                demand(tree, EXCEPTIONS.contains(name), "rule 6, " + name);
+            }
+            throwing++;
+            super.visitThrow(tree, none);
+            throwing--;
+            return null;
+        }
+
+        @Override
+        public Void visitBinary(BinaryTree tree, Void none) {
+            demand(tree, tree.getKind() != Tree.Kind.PLUS || !isText(), "rule 10, a text joined by +");
+            boolean isSame = tree.getKind() == Tree.Kind.EQUAL_TO || tree.getKind() == Tree.Kind.NOT_EQUAL_TO;
+            if (isSame) {
+                TypeMirror left = trees.getTypeMirror(new com.sun.source.util.TreePath(getCurrentPath(),
+                    tree.getLeftOperand()));
+                demand(tree, left.getKind() != TypeKind.DECLARED || !left.toString().equals("java.lang.String"),
+                    "rule 6, texts compared by ==");
+            }
+            return super.visitBinary(tree, none);
+        }
+
+        private boolean isText() {
+            return trees.getTypeMirror(getCurrentPath()).toString().equals("java.lang.String");
+        }
+
+        @Override
+        public Void visitLambdaExpression(LambdaExpressionTree tree, Void none) {
+            refuse(tree, "rule 2, a lambda");
+            return super.visitLambdaExpression(tree, none);
+        }
+
+        @Override
+        public Void visitMemberReference(MemberReferenceTree tree, Void none) {
+            refuse(tree, "rule 2, a method reference");
+            return super.visitMemberReference(tree, none);
+        }
+
+        @Override
+        public Void visitTry(TryTree tree, Void none) {
+            demand(tree, tree.getFinallyBlock() == null && tree.getResources().isEmpty(), "rule 6, more than a catch");
+            for (CatchTree caught : tree.getCatches()) {
+                String name = "" + caught.getParameter().getType();
+                demand(caught, CAUGHT.contains(name), "a catch of what the machine may throw: " + name);
+            }
+            return super.visitTry(tree, none);
+        }
+
+        @Override
+        public Void visitTypeCast(TypeCastTree tree, Void none) {
+            demand(tree, tree.getType() instanceof PrimitiveTypeTree, "a cast of an object: nothing here needs one");
+            return super.visitTypeCast(tree, none);
+        }
+
+        @Override
+        public Void visitImport(ImportTree tree, Void none) {
+            String name = "" + tree.getQualifiedIdentifier();
+            demand(tree, name.equals("java.util.NoSuchElementException"), "rule 4, " + name);
+            return super.visitImport(tree, none);
+        }
+
+        private int depth(Element element, Set<Element> open) {
+            due.holds("no recursion through " + element, open.add(element));
+            int deepest = 0;
+            for (Element called : calls.getOrDefault(element, Set.of())) {
+                if (!open.contains(called)) {
+                    deepest = Math.max(deepest, depth(called, open));
+                } else {
+                    due.holds("recursion: " + called, false);
+                }
+            }
+            open.remove(element);
+            return deepest + 1;
+        }
+
+        void end() {
+            due.holds("rule 11, at most 12 classes: " + classes, classes <= 12);
+            Set<String> publicNames = new TreeSet<>();
+            for (Element element : calls.keySet()) {
+                int depth = depth(element, new java.util.HashSet<>());
+                due.holds("rule 11, calls " + depth + " deep from " + element, depth <= 8);
+                if (element.getModifiers().contains(Modifier.PUBLIC)) {
+                    publicNames.add("" + element.getSimpleName());
+                }
+            }
+            for (Element element : calls.keySet()) {
+                due.holds("rule 1, a private method with a public name: " + element,
+                    element.getKind() == ElementKind.CONSTRUCTOR || element.getModifiers().contains(Modifier.PUBLIC)
+                    || !publicNames.contains("" + element.getSimpleName()));
+            }
+        }
+    }
+}
