@@ -524,7 +524,7 @@ public final class CloudDeeds {
 
         void record(Cloud[] clouds, int cloudCount) {
             makeRoom();
-            for (int n = 0; n < cloudCount; n++) {
+            for (int n = 0; n < cloudCount && n < MOST_CLOUDS; n++) {
                 owners[n] = clouds[n].owner;
             }
             cloudCounts[0] = cloudCount;
@@ -1239,13 +1239,19 @@ public final class CloudDeeds {
         }
 
         private boolean readPart(char part, Order order) {
-            switch (part) {
-                case '#': return readDigit(order, 1);
-                case '%': return readNumber(order);
-                case '~': return readDigit(order, readSign('-') ? -1 : 1);
-                case '!': return readSign('-') ? order.add(NONE) : readSign('>') && readDigit(order, 1);
-                default: return readSign(part);
+            if (part == '#') {
+                return readDigit(order, 1);
             }
+            if (part == '%') {
+                return readNumber(order);
+            }
+            if (part == '~') {
+                return readDigit(order, readSign('-') ? -1 : 1);
+            }
+            if (part == '!') {
+                return readSign('-') ? order.add(NONE) : readSign('>') && readDigit(order, 1);
+            }
+            return readSign(part);
         }
 
         private boolean readDigit(Order order, int factor) {

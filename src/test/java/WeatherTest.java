@@ -135,6 +135,10 @@ public final class WeatherTest {
         for (int n = 0; n < 6; n++) {
             due.equal("recorded", x.recorded(1, n), n % 4);
         }
+        for (int n = 0; n < 3; n++) {
+            x.dawn();
+        }
+        due.equal("record of the first", Deeds.dawnLine(x, 4), "012301");
     }
 
     private static void promise10Dawn() {
