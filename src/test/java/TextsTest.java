@@ -29,21 +29,21 @@ public final class TextsTest {
     }
 
     private static void promise25Feed() {
-        CloudDeeds x = new CloudDeeds();
+        Desk x = new Desk();
         for (int n = 1; n <= 60; n++) {
             due.equal("feed", x.feed((char) (n * 1000)), n);
             due.equal("characters on the tape", x.account(11), n);
         }
-        due.thrown("feed a full tape", IllegalStateException.class, () -> x.feed('d'));
+        due.thrown("feed a full tape", x, IllegalStateException.class, d -> d.feed('d'));
         due.equal("characters on the tape", x.account(11), 60);
         due.equal("feed is no change", x.account(12), 0);
-        due.thrown("run", FAULT, x::run);
+        due.throwsJust("run", x, FAULT, Desk::run);
         due.equal("characters on the tape", x.account(11), 0);
         due.equal("feed", x.feed((char) 0), 1);
     }
 
     private static void promise26RunEachOrder() {
-        CloudDeeds x = new CloudDeeds();
+        Desk x = new Desk();
         due.equal("run", Deeds.run(x, "cloud 5 3 9;cloud 0 1 2;cloud 0 0 1"), 3);
         due.equal("line", Deeds.line(x, 0), "0@5:3/9");
         due.equal("line", Deeds.line(x, 1), "1@0:1/2");
@@ -76,22 +76,22 @@ public final class TextsTest {
     }
 
     private static void promise26RunFaultEmptiesTape() {
-        CloudDeeds x = new CloudDeeds();
+        Desk x = new Desk();
         String before = Deeds.office(x);
         Deeds.feed(x, "dawn;dawn;x");
-        due.thrown("run with a fault", FAULT, x::run);
+        due.throwsJust("run with a fault", x, FAULT, Desk::run);
         due.equal("the tape is empty", x.account(11), 0);
         due.equal("the office stays", Deeds.office(x), before);
-        due.thrown("a fault is no reason", NO_ELEMENT, () -> x.reason(false, false));
+        due.thrown("a fault is no reason", x, NO_ELEMENT, d -> d.reason(false, false));
         due.equal("run", Deeds.run(x, "dawn"), 1);
     }
 
     private static void promise26RunAllOrNone() {
-        CloudDeeds x = new CloudDeeds();
+        Desk x = new Desk();
         Deeds.run(x, "cloud 0 0 9;vine 0>1;dawn");
         String before = Deeds.office(x);
         Deeds.feed(x, "dawn;wind 1;cloud 1 1 1;vine 0-;hail 1;dawn;title 9>0");
-        due.thrown("run refused", REFUSED, x::run);
+        due.throwsJust("run refused", x, REFUSED, Desk::run);
         due.equal("the tape is empty", x.account(11), 0);
         due.equal("the office stays", Deeds.office(x), before);
         due.kept("run", x, 10, 6);
@@ -106,28 +106,23 @@ public final class TextsTest {
     }
 
     private static void promise26RunLongest() {
-        CloudDeeds x = new CloudDeeds();
+        Desk x = new Desk();
         due.equal("twelve orders", Deeds.run(x, "dawn;dawn;dawn;dawn;dawn;dawn;dawn;dawn;dawn;dawn;dawn;dawn"), 12);
         due.equal("dawns", x.account(4), 12);
         Deeds.feed(x, "dawn;dawn;dawn;dawn;dawn;dawn;dawn;dawn;dawn;dawn;dawn;dawn;");
-        due.thrown("a full tape that ends too early", FAULT, x::run);
+        due.throwsJust("a full tape that ends too early", x, FAULT, Desk::run);
         due.equal("fault position", x.faultPosition(), 60);
         due.equal("dawns", x.account(4), 12);
         Deeds.feed(x, "dawn;dawn;dawn;dawn;dawn;dawn;dawn;dawn;dawn;dawn;dawn;dawn ");
-        due.thrown("run", FAULT, x::run);
+        due.throwsJust("run", x, FAULT, Desk::run);
         due.equal("fault position", x.faultPosition(), 59);
     }
 
     private static void fault(String text, int position) {
-        CloudDeeds x = new CloudDeeds();
+        Desk x = new Desk();
         x.cloud(0, 0, 9);
         x.title(0, 0);
-        String before = Deeds.office(x);
-        Deeds.feed(x, text);
-        due.thrown("run of \"" + text + "\"", FAULT, x::run);
-        due.equal("fault position of \"" + text + "\"", x.faultPosition(), position);
-        due.equal("the tape is empty", x.account(11), 0);
-        due.equal("the office after \"" + text + "\"", Deeds.office(x), before);
+        due.fault(text, x, position);
     }
 
     private static void promise27Faults() {
@@ -182,95 +177,80 @@ public final class TextsTest {
     }
 
     private static void promise27FaultPosition() {
-        CloudDeeds x = new CloudDeeds();
-        due.thrown("no fault", NO_ELEMENT, x::faultPosition);
+        Desk x = new Desk();
+        due.thrown("no fault", x, NO_ELEMENT, Desk::faultPosition);
         Deeds.run(x, "dawn");
-        due.thrown("no fault", NO_ELEMENT, x::faultPosition);
+        due.thrown("no fault", x, NO_ELEMENT, Desk::faultPosition);
         Deeds.feed(x, "dawx");
-        due.thrown("run", FAULT, x::run);
+        due.throwsJust("run", x, FAULT, Desk::run);
         due.equal("fault position", x.faultPosition(), 3);
         Deeds.run(x, "dawn");
         due.equal("fault position, after a text without", x.faultPosition(), 3);
         Deeds.feed(x, "wind 0");
-        due.thrown("run", REFUSED, x::run);
+        due.throwsJust("run", x, REFUSED, Desk::run);
         due.equal("fault position, after one refused", x.faultPosition(), 3);
         x.undo();
         due.equal("fault position, after undo", x.faultPosition(), 3);
-        due.thrown("run", FAULT, x::run);
+        due.throwsJust("run", x, FAULT, Desk::run);
         due.equal("fault position of nothing", x.faultPosition(), 0);
     }
 
-    private static void behind(CloudDeeds x, String text, int order, int reason, int detail) {
-        String before = Deeds.office(x);
-        Deeds.feed(x, text);
-        due.thrown("run of \"" + text + "\"", REFUSED, x::run);
-        due.kept("run of \"" + text + "\"", x, 10, order);
-        due.equal("reason behind \"" + text + "\"", x.reason(true, false), reason);
-        due.equal("detail behind \"" + text + "\"", x.reason(true, true), detail);
-        due.equal("the office after \"" + text + "\"", Deeds.office(x), before);
-    }
-
     private static void promise28ReasonsOfOrders() {
-        CloudDeeds x = new CloudDeeds();
+        Desk x = new Desk();
         Deeds.run(x, "cloud 0 0 9;title 0>0;pledge 0>1;cloud 0 0 9;title 1>2");
-        behind(x, "cloud 0 0 1;cloud 0 0 1;cloud 0 0 1;cloud 0 0 1;cloud 0 0 1", 4, 1, 6);
-        behind(x, "cloud 6 0 0", 0, 2, 6);
-        behind(x, "cloud 0 9 0", 0, 3, 9);
-        behind(x, "dawn;cloud 0 0 0", 1, 3, 0);
-        behind(x, "vine 7>0", 0, 2, 7);
-        behind(x, "vine 0>4", 0, 2, 4);
-        behind(x, "vine 0-", 0, 4, -1);
-        behind(x, "title 2>0", 0, 2, 2);
-        behind(x, "title 0>3", 0, 5, 0);
-        behind(x, "cloud 0 0 9;title 2>1", 1, 7, 2);
-        behind(x, "sell 0>4=0", 0, 2, 4);
-        behind(x, "cloud 0 0 1;sell 2>0=1", 1, 6, 2);
-        behind(x, "sell 0>0=1", 0, 4, 0);
-        behind(x, "sell 0>3=0", 0, 8, 1);
-        behind(x, "sell 1>1=99", 0, 7, 2);
-        behind(x, "pledge 0>2", 0, 8, 1);
-        behind(x, "redeem 1", 0, 9, 1);
-        behind(x, "dawn;dawn;wind -0", 2, 3, 0);
-        behind(x, "wind -9", 0, 3, -9);
-        behind(x, "wind 4", 0, 3, 4);
-        behind(x, "hail 6", 0, 2, 6);
+        due.refusedText("cloud 0 0 1;cloud 0 0 1;cloud 0 0 1;cloud 0 0 1;cloud 0 0 1", x, 4, 1, 6);
+        due.refusedText("cloud 6 0 0", x, 0, 2, 6);
+        due.refusedText("cloud 0 9 0", x, 0, 3, 9);
+        due.refusedText("dawn;cloud 0 0 0", x, 1, 3, 0);
+        due.refusedText("vine 7>0", x, 0, 2, 7);
+        due.refusedText("vine 0>4", x, 0, 2, 4);
+        due.refusedText("vine 0-", x, 0, 4, -1);
+        due.refusedText("title 2>0", x, 0, 2, 2);
+        due.refusedText("title 0>3", x, 0, 5, 0);
+        due.refusedText("cloud 0 0 9;title 2>1", x, 1, 7, 2);
+        due.refusedText("sell 0>4=0", x, 0, 2, 4);
+        due.refusedText("cloud 0 0 1;sell 2>0=1", x, 1, 6, 2);
+        due.refusedText("sell 0>0=1", x, 0, 4, 0);
+        due.refusedText("sell 0>3=0", x, 0, 8, 1);
+        due.refusedText("sell 1>1=99", x, 0, 7, 2);
+        due.refusedText("pledge 0>2", x, 0, 8, 1);
+        due.refusedText("redeem 1", x, 0, 9, 1);
+        due.refusedText("dawn;dawn;wind -0", x, 2, 3, 0);
+        due.refusedText("wind -9", x, 0, 3, -9);
+        due.refusedText("wind 4", x, 0, 3, 4);
+        due.refusedText("hail 6", x, 0, 2, 6);
     }
 
     private static void promise28Reason() {
-        CloudDeeds x = new CloudDeeds();
+        Desk x = new Desk();
         for (int n = 0; n < 4; n++) {
             boolean isBehind = n >= 2;
             boolean isDetail = n % 2 == 1;
-            due.thrown("no reason", NO_ELEMENT, () -> x.reason(isBehind, isDetail));
+            due.thrown("no reason", x, NO_ELEMENT, d -> d.reason(isBehind, isDetail));
         }
-        due.thrown("wind", REFUSED, () -> x.wind(-7));
-        due.kept("wind", x, 3, -7);
-        due.thrown("none behind", NO_ELEMENT, () -> x.reason(true, false));
+        due.refused("wind", x, 3, -7, d -> d.wind(-7));
         x.dawn();
         due.kept("after a change", x, 3, -7);
         x.undo();
         due.kept("after undo", x, 3, -7);
         Deeds.feed(x, "dawn;redeem 5");
-        due.thrown("run", REFUSED, x::run);
+        due.throwsJust("run", x, REFUSED, Desk::run);
         due.kept("run", x, 10, 1);
         due.equal("behind", x.reason(true, false), 2);
         due.equal("behind", x.reason(true, true), 5);
         Deeds.feed(x, "fault");
-        due.thrown("run", FAULT, x::run);
-        due.thrown("an exception without a reason", NO_INDEX, () -> x.line(0));
+        due.throwsJust("run", x, FAULT, Desk::run);
+        due.thrown("an exception without a reason", x, NO_INDEX, d -> d.line(0));
         due.kept("after a fault", x, 10, 1);
         due.equal("behind", x.reason(true, true), 5);
-        due.thrown("hail", REFUSED, () -> x.hail(8));
-        due.kept("hail", x, 2, 8);
-        due.thrown("none behind any more", NO_ELEMENT, () -> x.reason(true, false));
-        due.thrown("none behind any more", NO_ELEMENT, () -> x.reason(true, true));
+        due.refused("hail, so that none stands behind any more", x, 2, 8, d -> d.hail(8));
         x.save();
         x.restore();
         due.kept("after restore", x, 2, 8);
     }
 
     private static void promise29Line() {
-        CloudDeeds x = new CloudDeeds();
+        Desk x = new Desk();
         x.cloud(0, 0, 1);
         x.cloud(1, 3, 7);
         due.equal("line", x.line(0), 7);
@@ -286,17 +266,17 @@ public final class TextsTest {
         x.redeem(1);
         due.equal("line", Deeds.line(x, 1), "1@0:2/7=3?");
         for (int cloud : new int[] {-1, 2, 99, Integer.MIN_VALUE, Integer.MAX_VALUE}) {
-            due.thrown("line " + cloud, NO_INDEX, () -> x.line(cloud));
+            due.thrown("line " + cloud, x, NO_INDEX, d -> d.line(cloud));
         }
         due.equal("the line stays", Deeds.read(x, 10), "1@0:2/7=3?");
         x.undo();
         due.equal("the line stays", Deeds.read(x, 10), "1@0:2/7=3?");
-        due.thrown("no longer than this", NO_INDEX, () -> x.character(10));
+        due.thrown("no longer than this", x, NO_INDEX, d -> d.character(10));
     }
 
     private static void promise30DawnLine() {
-        CloudDeeds x = new CloudDeeds();
-        due.thrown("no dawn", NO_ELEMENT, () -> x.dawnLine(0));
+        Desk x = new Desk();
+        due.thrown("no dawn", x, NO_ELEMENT, d -> d.dawnLine(0));
         x.dawn();
         for (int n = 0; n < 4; n++) {
             x.cloud(n, 0, 1);
@@ -313,10 +293,10 @@ public final class TextsTest {
         due.equal("record", Deeds.dawnLine(x, 0), "3-1");
         due.equal("record, one ago", Deeds.dawnLine(x, 1), "03-1");
         due.equal("record without clouds", x.dawnLine(2), 0);
-        due.thrown("an empty line", NO_INDEX, () -> x.character(0));
+        due.thrown("an empty line", x, NO_INDEX, d -> d.character(0));
         x.dawnLine(1);
         for (int ago : new int[] {-1, 3, 99, Integer.MIN_VALUE, Integer.MAX_VALUE}) {
-            due.thrown("dawnLine " + ago, NO_ELEMENT, () -> x.dawnLine(ago));
+            due.thrown("dawnLine " + ago, x, NO_ELEMENT, d -> d.dawnLine(ago));
         }
         due.equal("the line stays", Deeds.read(x, 4), "03-1");
         x.wind(1);
@@ -326,7 +306,7 @@ public final class TextsTest {
         due.equal("four ago", x.dawnLine(4), 0);
         x.dawn();
         due.equal("four ago", Deeds.dawnLine(x, 4), "03-1");
-        due.thrown("five ago", NO_ELEMENT, () -> x.dawnLine(5));
+        due.thrown("five ago", x, NO_ELEMENT, d -> d.dawnLine(5));
         x.cloud(5, 5, 1);
         x.cloud(5, 5, 1);
         x.cloud(5, 5, 1);
@@ -337,8 +317,8 @@ public final class TextsTest {
     }
 
     private static void promise31Character() {
-        CloudDeeds x = new CloudDeeds();
-        due.thrown("an empty line", NO_INDEX, () -> x.character(0));
+        Desk x = new Desk();
+        due.thrown("an empty line", x, NO_INDEX, d -> d.character(0));
         x.cloud(4, 2, 7);
         x.line(0);
         String want = "0@4:2/7";
@@ -346,17 +326,17 @@ public final class TextsTest {
             due.equal("character " + n, x.character(n), want.charAt(n));
         }
         for (int index : new int[] {-1, 7, 99, Integer.MIN_VALUE, Integer.MAX_VALUE}) {
-            due.thrown("character " + index, NO_INDEX, () -> x.character(index));
+            due.thrown("character " + index, x, NO_INDEX, d -> d.character(index));
         }
         x.dawn();
         x.dawnLine(0);
         due.equal("in place of the line before", x.character(0), '-');
-        due.thrown("in place of the line before", NO_INDEX, () -> x.character(1));
+        due.thrown("in place of the line before", x, NO_INDEX, d -> d.character(1));
     }
 
     private static void promise32MeanSize() {
-        CloudDeeds x = new CloudDeeds();
-        due.thrown("no clouds", ArithmeticException.class, x::meanSize);
+        Desk x = new Desk();
+        due.thrown("no clouds", x, ArithmeticException.class, Desk::meanSize);
         x.cloud(0, 0, 9);
         due.same("mean", x.meanSize(), 9.0);
         x.cloud(0, 0, 2);
@@ -370,12 +350,12 @@ public final class TextsTest {
         for (int n = 0; n < 7; n++) {
             x.hail(0);
         }
-        due.thrown("no clouds", ArithmeticException.class, x::meanSize);
+        due.thrown("no clouds", x, ArithmeticException.class, Desk::meanSize);
     }
 
     private static void promise33TitledShare() {
-        CloudDeeds x = new CloudDeeds();
-        due.thrown("no clouds", ArithmeticException.class, x::titledShare);
+        Desk x = new Desk();
+        due.thrown("no clouds", x, ArithmeticException.class, Desk::titledShare);
         x.cloud(0, 0, 1);
         due.same("share", x.titledShare(), 0.0f);
         x.title(0, 0);
@@ -388,17 +368,17 @@ public final class TextsTest {
         x.hail(0);
         due.same("share", x.titledShare(), 0.5f);
         x.hail(0);
-        due.thrown("no clouds", ArithmeticException.class, x::titledShare);
+        due.thrown("no clouds", x, ArithmeticException.class, Desk::titledShare);
     }
 
-    private static void accounts(CloudDeeds x, int... want) {
+    private static void accounts(Desk x, int... want) {
         for (int what = 0; what <= 12; what++) {
             due.equal("account " + what, x.account(what), want[what]);
         }
     }
 
     private static void promise34Account() {
-        CloudDeeds x = new CloudDeeds();
+        Desk x = new Desk();
         accounts(x, 0, 0, 0, 0, 0, 0, 0, 0, 0, 0, 0, 0, 0);
         Deeds.run(x, "cloud 0 0 4;cloud 1 1 2;cloud 2 2 1;cloud 3 3 1");
         Deeds.run(x, "vine 0>0;vine 1>0;vine 2>3;title 3>1;pledge 3>2");
@@ -425,12 +405,12 @@ public final class TextsTest {
         x.pledge(1, 2);
         due.equal("pledged", x.account(2), 2);
         for (int what : new int[] {-1, 13, 99, Integer.MIN_VALUE, Integer.MAX_VALUE}) {
-            due.thrown("account " + what, IllegalArgumentException.class, () -> x.account(what));
+            due.thrown("account " + what, x, IllegalArgumentException.class, d -> d.account(what));
         }
     }
 
     private static void promise35IsBalanced() {
-        CloudDeeds x = new CloudDeeds();
+        Desk x = new Desk();
         due.holds("balanced", x.isBalanced());
         String[] texts = {"cloud 0 0 9;cloud 5 1 1;cloud 3 2 4", "title 0>0;title 1>1;pledge 0>3", "vine 0>1;vine 3>2;dawn",
             "wind 3;dawn", "hail 0;hail 2;hail 3", "title 0>0;sell 0>1=4;dawn;dawn"};

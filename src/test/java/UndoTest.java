@@ -14,20 +14,20 @@ public final class UndoTest {
     }
 
     private static void promise36UndoEachChange() {
-        CloudDeeds x = new CloudDeeds();
-        due.thrown("nothing to undo", BAD_STATE, x::undo);
+        Desk x = new Desk();
+        due.thrown("nothing to undo", x, BAD_STATE, Desk::undo);
         Deeds.run(x, "cloud 0 0 3;cloud 0 3 1;title 0>0;dawn;vine 1>1");
         String[] texts = {"cloud 2 2 2", "vine 0>3", "title 1>1", "sell 0>2=9", "pledge 0>1", "redeem 0", "wind 2",
             "hail 0", "dawn"};
-        Due.Call[] changes = {() -> x.cloud(2, 2, 2), () -> x.vine(0, 3), () -> x.title(1, 1), () -> x.sell(0, 2, 9),
-            () -> x.pledge(0, 1), () -> x.redeem(0), () -> x.wind(2), () -> x.hail(0), x::dawn};
+        Due.Act[] changes = {d -> d.cloud(2, 2, 2), d -> d.vine(0, 3), d -> d.title(1, 1), d -> d.sell(0, 2, 9),
+            d -> d.pledge(0, 1), d -> d.redeem(0), d -> d.wind(2), d -> d.hail(0), Desk::dawn};
         for (int n = 0; n < changes.length; n++) {
             String before = Deeds.office(x);
             if (texts[n].startsWith("redeem")) {
                 x.pledge(0, 1);
                 before = Deeds.office(x);
             }
-            changes[n].make();
+            changes[n].on(x);
             String after = Deeds.office(x);
             due.holds(texts[n] + " is a change", !after.equals(before));
             x.undo();
@@ -41,12 +41,12 @@ public final class UndoTest {
             }
         }
         due.equal("undo", x.undo(), 0);
-        due.equal("as new", Deeds.office(x), Deeds.office(new CloudDeeds()));
-        due.thrown("nothing to undo", BAD_STATE, x::undo);
+        due.equal("as new", Deeds.office(x), Deeds.office(new Desk()));
+        due.thrown("nothing to undo", x, BAD_STATE, Desk::undo);
     }
 
     private static void promise36UndoDawns() {
-        CloudDeeds x = new CloudDeeds();
+        Desk x = new Desk();
         for (int n = 0; n < 6; n++) {
             x.cloud(0, 0, 1);
             x.dawn();
@@ -59,7 +59,7 @@ public final class UndoTest {
         x.undo();
         x.undo();
         due.equal("the latest then", Deeds.dawnLine(x, 0), "----");
-        due.thrown("a dawn that is undone", java.util.NoSuchElementException.class, () -> x.dawnLine(4));
+        due.thrown("a dawn that is undone", x, java.util.NoSuchElementException.class, d -> d.dawnLine(4));
         x.save();
         x.hail(0);
         x.dawn();
@@ -67,11 +67,11 @@ public final class UndoTest {
         x.restore();
         due.equal("the latest of the snapshot", Deeds.dawnLine(x, 0), "----");
         due.equal("the first of the snapshot", Deeds.dawnLine(x, 3), "-");
-        due.thrown("a dawn that is no more", java.util.NoSuchElementException.class, () -> x.dawnLine(4));
+        due.thrown("a dawn that is no more", x, java.util.NoSuchElementException.class, d -> d.dawnLine(4));
     }
 
     private static void promise36UndoMost() {
-        CloudDeeds x = new CloudDeeds();
+        Desk x = new Desk();
         for (int n = 1; n <= 12; n++) {
             x.dawn();
             due.equal("changes", x.account(12), Math.min(n, 8));
@@ -80,7 +80,7 @@ public final class UndoTest {
             due.equal("undo", x.undo(), 8 - n);
             due.equal("dawns", x.account(4), 12 - n);
         }
-        due.thrown("nothing to undo", BAD_STATE, x::undo);
+        due.thrown("nothing to undo", x, BAD_STATE, Desk::undo);
         due.equal("dawns", x.account(4), 4);
         x.cloud(0, 0, 1);
         x.cloud(0, 0, 2);
@@ -93,13 +93,13 @@ public final class UndoTest {
     }
 
     private static void promise36UndoWhatIsNoChange() {
-        CloudDeeds x = new CloudDeeds();
+        Desk x = new Desk();
         x.cloud(0, 0, 1);
         Deeds.feed(x, "dawn;y");
-        due.thrown("run", IllegalArgumentException.class, x::run);
+        due.throwsJust("run", x, IllegalArgumentException.class, Desk::run);
         Deeds.feed(x, "dawn;vine 0-");
-        due.thrown("run", UnsupportedOperationException.class, x::run);
-        due.thrown("vine", UnsupportedOperationException.class, () -> x.vine(0, -1));
+        due.throwsJust("run", x, UnsupportedOperationException.class, Desk::run);
+        due.refused("vine", x, 4, -1, d -> d.vine(0, -1));
         x.line(0);
         x.would(0, 1);
         x.bestWind(0);
@@ -116,7 +116,7 @@ public final class UndoTest {
     }
 
     private static void promise37Save() {
-        CloudDeeds x = new CloudDeeds();
+        Desk x = new Desk();
         due.equal("save", x.save(), 0);
         x.cloud(0, 0, 2);
         x.cloud(1, 0, 1);
@@ -128,8 +128,8 @@ public final class UndoTest {
     }
 
     private static void promise38Restore() {
-        CloudDeeds x = new CloudDeeds();
-        due.thrown("nothing was saved", BAD_STATE, x::restore);
+        Desk x = new Desk();
+        due.thrown("nothing was saved", x, BAD_STATE, Desk::restore);
         Deeds.run(x, "cloud 0 0 3;cloud 1 3 1;title 0>0;pledge 0>2;vine 1>1;dawn");
         x.undo();
         Deeds.run(x, "cloud 0 0 3;cloud 1 3 1;title 0>0;pledge 0>2;vine 1>1;dawn");
@@ -139,9 +139,9 @@ public final class UndoTest {
         Deeds.feed(x, "xyz");
         due.equal("restore", x.restore(), 2);
         due.equal("nothing can be undone", x.account(12), 0);
-        due.thrown("nothing can be undone", BAD_STATE, x::undo);
+        due.thrown("nothing can be undone", x, BAD_STATE, Desk::undo);
         due.equal("the tape stays", x.account(11), 3);
-        due.thrown("run", IllegalArgumentException.class, x::run);
+        due.throwsJust("run", x, IllegalArgumentException.class, Desk::run);
         String restored = Deeds.office(x);
         due.equal("the office", restored, before.substring(0, before.length() - 1) + "0");
         x.dawn();

@@ -17,7 +17,7 @@ public final class WeatherTest {
     private static void promise08Wind() {
         for (int wind = -3; wind <= 3; wind++) {
             for (int n = 0; wind != 0 && n < 6; n++) {
-                CloudDeeds x = new CloudDeeds();
+                Desk x = new Desk();
                 x.cloud(n, 5 - n, 4);
                 due.equal("wind " + wind, x.wind(wind), 0);
                 due.equal("vineyard from " + n + " by " + wind, x.cloudOf(0, 0), (n + wind + 6) % 6);
@@ -25,7 +25,7 @@ public final class WeatherTest {
                 due.equal("size", x.cloudOf(0, 2), 4);
             }
         }
-        CloudDeeds x = new CloudDeeds();
+        Desk x = new Desk();
         due.equal("wind without clouds", x.wind(1), 0);
         x.cloud(0, 0, 1);
         x.cloud(0, 1, 1);
@@ -41,15 +41,15 @@ public final class WeatherTest {
     }
 
     private static void promise08WindRefused() {
-        CloudDeeds x = new CloudDeeds();
+        Desk x = new Desk();
         x.cloud(0, 0, 1);
         for (int wind : new int[] {0, 4, -4, Integer.MIN_VALUE, Integer.MAX_VALUE}) {
-            due.refused("wind " + wind, x, 3, wind, () -> x.wind(wind));
+            due.refused("wind " + wind, x, 3, wind, d -> d.wind(wind));
         }
     }
 
     private static void promise09Hail() {
-        CloudDeeds x = new CloudDeeds();
+        Desk x = new Desk();
         x.cloud(3, 0, 1);
         x.cloud(3, 1, 2);
         x.cloud(4, 2, 1);
@@ -68,7 +68,7 @@ public final class WeatherTest {
         due.equal("line", Deeds.line(x, 1), "1@4:4/8=2");
         due.equal("gone", x.account(8), 3);
         for (int vineyard : new int[] {-1, 6, Integer.MIN_VALUE, Integer.MAX_VALUE}) {
-            due.refused("hail on " + vineyard, x, 2, vineyard, () -> x.hail(vineyard));
+            due.refused("hail on " + vineyard, x, 2, vineyard, d -> d.hail(vineyard));
         }
         for (int n = 0; n < 8; n++) {
             x.hail(4);
@@ -81,7 +81,7 @@ public final class WeatherTest {
     }
 
     private static void promise09HailPledged() {
-        CloudDeeds x = new CloudDeeds();
+        Desk x = new Desk();
         x.cloud(0, 0, 1);
         x.cloud(0, 1, 2);
         x.cloud(1, 2, 3);
@@ -109,7 +109,7 @@ public final class WeatherTest {
     }
 
     private static void promises08To10SixClouds() {
-        CloudDeeds x = new CloudDeeds();
+        Desk x = new Desk();
         for (int n = 0; n < 6; n++) {
             x.cloud(n, n, 3);
             x.title(n, n % 4);
@@ -142,7 +142,7 @@ public final class WeatherTest {
     }
 
     private static void promise10Dawn() {
-        CloudDeeds x = new CloudDeeds();
+        Desk x = new Desk();
         due.equal("dawn without clouds", x.dawn(), 0);
         x.cloud(0, 0, 1);
         x.cloud(1, 1, 2);
@@ -174,7 +174,7 @@ public final class WeatherTest {
     }
 
     private static void promise10DawnPays() {
-        CloudDeeds x = new CloudDeeds();
+        Desk x = new Desk();
         x.vine(0, 0);
         x.vine(1, 0);
         x.vine(2, 1);
@@ -207,7 +207,7 @@ public final class WeatherTest {
     }
 
     private static void promise10DawnEndsPledges() {
-        CloudDeeds x = new CloudDeeds();
+        Desk x = new Desk();
         x.cloud(0, 0, 2);
         x.title(0, 0);
         x.pledge(0, 1);
