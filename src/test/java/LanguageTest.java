@@ -6,6 +6,7 @@ import com.sun.source.util.Trees;
 import java.nio.file.Files;
 import java.nio.file.Path;
 import java.util.HashMap;
+import java.util.HashSet;
 import java.util.List;
 import java.util.Map;
 import java.util.Set;
@@ -15,6 +16,8 @@ import javax.lang.model.element.ElementKind;
 import javax.lang.model.element.ExecutableElement;
 import javax.lang.model.element.Modifier;
 import javax.lang.model.element.TypeElement;
+import javax.lang.model.type.ArrayType;
+import javax.lang.model.type.DeclaredType;
 import javax.lang.model.type.TypeKind;
 import javax.lang.model.type.TypeMirror;
 import javax.tools.JavaCompiler;
@@ -36,11 +39,16 @@ public final class LanguageTest {
     private static final Set<String> LISTS = Set.of("add", "get", "set", "remove", "size", "isEmpty", "clear", "of");
     private static final Set<String> COPIES = Set.of("copyOf", "copyOfRange", "fill", "clone");
     private static final Set<String> NEW = Set.of("String", "StringBuilder", "ArrayList");
+    private static final Set<String> TYPES = Set.of("String", "StringBuilder", "Integer", "ArrayList", "List", "Iterator",
+        "Iterable", "Comparable");
     private static final Set<String> IMPORTS = Set.of("java.util.NoSuchElementException", "java.util.ArrayList",
         "java.util.List", "java.util.Arrays", "java.util.Iterator");
     private static final Set<String> EXCEPTIONS = Set.of("IllegalStateException", "IllegalArgumentException",
         "IndexOutOfBoundsException", "ArithmeticException", "UnsupportedOperationException", "NoSuchElementException",
         "RuntimeException");
+    private static final Set<String> KEPT = Set.of("int", "long", "boolean", "char", "java.lang.String", "int[]", "long[]",
+        "char[]", "byte[]");
+    private static final Set<String> OF_ENUM = Set.of("int", "long", "boolean", "java.lang.String");
     private static final Set<String> CAUGHT = Set.of("IllegalStateException", "IllegalArgumentException",
         "UnsupportedOperationException", "NoSuchElementException");
     private static final Due due = new Due();
@@ -69,7 +77,7 @@ public final class LanguageTest {
         for (String line : Files.readAllLines(DOCUMENT)) {
             isFace = line.startsWith("public final class") || isFace && !line.startsWith("```");
             if (isFace && line.startsWith("    public ")) {
-                String types = line.strip().replaceAll("\\).*", ")").replaceAll(" [a-z][A-Za-z]*(?=[,)])", "");
+                String types = line.strip().replace(";", "").replaceAll(" [a-z][A-Za-z]*(?=[,)])", "");
                 want.add(types.replace("public ", "").replace(" ", ""));
             }
         }
@@ -77,7 +85,8 @@ public final class LanguageTest {
         Set<String> got = new TreeSet<>();
         for (java.lang.reflect.Method method : CloudDeeds.class.getDeclaredMethods()) {
             if (java.lang.reflect.Modifier.isPublic(method.getModifiers())) {
-                got.add(method.getReturnType() + method.getName() + types(method.getParameterTypes()));
+                got.add(method.getReturnType() + method.getName() + types(method.getParameterTypes())
+                    + thrown(method.getExceptionTypes()));
             }
         }
         for (java.lang.reflect.Constructor<?> made : CloudDeeds.class.getConstructors()) {
@@ -94,11 +103,21 @@ public final class LanguageTest {
         return text.append(")").toString();
     }
 
+    private static String thrown(Class<?>[] types) {
+        StringBuilder text = new StringBuilder();
+        for (Class<?> type : types) {
+            text.append(text.length() == 0 ? "throws" : ",").append(type.getSimpleName());
+        }
+        return text.toString();
+    }
+
     private static final class Rules extends TreePathScanner<Void, Void> {
         private final Trees trees;
         private final CompilationUnitTree unit;
         private final SourcePositions positions;
         private final Map<Element, Set<Element>> calls = new HashMap<>();
+        private final Set<Element> trying = new HashSet<>();
+        private final Set<Element> throwers = new HashSet<>();
         private ExecutableElement method = null;
         private int classes = 0;
         private int throwing = 0;
@@ -151,7 +170,9 @@ public final class LanguageTest {
                     && !member.getModifiers().contains(Modifier.PUBLIC);
                 if (member.getKind() == ElementKind.FIELD) {
                     fields += isStatic ? 0 : 1;
-                    demand(tree, !isStatic || member.getModifiers().contains(Modifier.FINAL), "rule 5, " + member);
+                    demand(tree, !isStatic || isConstant(member), "rule 5, " + member);
+                    demand(tree, isStatic || own.getKind() != ElementKind.ENUM || OF_ENUM.contains("" + member.asType()),
+                        "rule 2, a field of an enum: " + member);
                     demand(tree, !isFace || member.getModifiers().contains(Modifier.PRIVATE), "rule 1, " + member);
                 }
                 demand(tree, member.getKind() != ElementKind.STATIC_INIT, "rule 5, a static block");
@@ -162,15 +183,62 @@ public final class LanguageTest {
             return super.visitClass(tree, none);
         }
 
+        private boolean isConstant(Element field) {
+            TypeMirror type = field.asType();
+            boolean isOfEnum = type.getKind() == TypeKind.ARRAY && isEnum(((ArrayType) type).getComponentType());
+            return field.getModifiers().contains(Modifier.FINAL) && (isOfEnum || KEPT.contains("" + type));
+        }
+
+        private static boolean isEnum(TypeMirror type) {
+            return type.getKind() == TypeKind.DECLARED
+                && ((DeclaredType) type).asElement().getKind() == ElementKind.ENUM;
+        }
+
+        @Override
+        public Void visitVariable(VariableTree tree, Void none) {
+            Element variable = here();
+            boolean isCaught = variable.getKind() == ElementKind.EXCEPTION_PARAMETER;
+            demand(tree, isCaught || isOfLanguage(variable.asType()), "rule 3, " + variable.asType());
+            return super.visitVariable(tree, none);
+        }
+
+        private boolean isOfLanguage(TypeMirror type) {
+            if (type.getKind() == TypeKind.ARRAY) {
+                TypeMirror of = ((ArrayType) type).getComponentType();
+                boolean isOfRows = of.getKind() == TypeKind.ARRAY;
+                TypeMirror inRows = isOfRows ? ((ArrayType) of).getComponentType() : of;
+                return inRows.getKind().isPrimitive() ? !isOfRows || inRows.getKind() != TypeKind.BOOLEAN
+                    : !isOfRows && isOwn(inRows);
+            }
+            if (type.getKind() != TypeKind.DECLARED) {
+                return type.getKind().isPrimitive() || type.getKind() == TypeKind.TYPEVAR
+                    || type.getKind() == TypeKind.VOID;
+            }
+            DeclaredType declared = (DeclaredType) type;
+            for (TypeMirror argument : declared.getTypeArguments()) {
+                if (!isOwn(argument) && !argument.toString().equals("java.lang.Integer")) {
+                    return false;
+                }
+            }
+            return isOwn(type) || TYPES.contains("" + declared.asElement().getSimpleName());
+        }
+
+        private boolean isOwn(TypeMirror type) {
+            return type.getKind() == TypeKind.TYPEVAR
+                || type.getKind() == TypeKind.DECLARED && isOwn(((DeclaredType) type).asElement());
+        }
+
         @Override
         public Void visitMethod(MethodTree tree, Void none) {
             ExecutableElement outer = method;
             method = (ExecutableElement) here();
-            calls.computeIfAbsent(method, m -> new java.util.HashSet<>());
+            calls.computeIfAbsent(method, m -> new HashSet<>());
             long lines = line(positions.getEndPosition(unit, tree)) - line(positions.getStartPosition(unit, tree)) + 1;
             demand(tree, lines <= 70, "rule 11, a long method");
             demand(tree, tree.getParameters().size() <= 7, "rule 11, too many parameters");
             demand(tree, !Set.of("equals", "hashCode", "toString").contains("" + tree.getName()), "rule 6, a name");
+            demand(tree, method.getKind() == ElementKind.CONSTRUCTOR || isOfLanguage(method.getReturnType()),
+                "rule 3, " + method.getReturnType());
             super.visitMethod(tree, none);
             method = outer;
             return null;
@@ -238,9 +306,12 @@ public final class LanguageTest {
             demand(tree, isNew, "rule 6, a throw of what is not new");
             demand(tree, method.getKind() != ElementKind.CONSTRUCTOR, "rule 6, a throw in a constructor");
             if (isNew) {
-                String name = "" + ((NewClassTree) tree.getExpression()).getIdentifier();
-                demand(tree, EXCEPTIONS.contains(name), "rule 6, " + name);
+                NewClassTree made = (NewClassTree) tree.getExpression();
+                demand(tree, EXCEPTIONS.contains("" + made.getIdentifier()), "rule 6, " + made.getIdentifier());
+                demand(tree, made.getArguments().isEmpty() || made.getArguments().size() == 1
+                    && made.getArguments().get(0) instanceof LiteralTree, "rule 6, a text that is not written");
             }
+            throwers.add(method);
             throwing++;
             super.visitThrow(tree, none);
             throwing--;
@@ -258,6 +329,12 @@ public final class LanguageTest {
                     "rule 6, texts compared by ==");
             }
             return super.visitBinary(tree, none);
+        }
+
+        @Override
+        public Void visitCompoundAssignment(CompoundAssignmentTree tree, Void none) {
+            demand(tree, !isText(), "rule 10, a text joined by +=");
+            return super.visitCompoundAssignment(tree, none);
         }
 
         private boolean isText() {
@@ -279,6 +356,7 @@ public final class LanguageTest {
         @Override
         public Void visitTry(TryTree tree, Void none) {
             demand(tree, tree.getFinallyBlock() == null && tree.getResources().isEmpty(), "rule 6, more than a catch");
+            trying.add(method);
             for (CatchTree caught : tree.getCatches()) {
                 String name = "" + caught.getParameter().getType();
                 demand(caught, CAUGHT.contains(name), "a catch of what the machine may throw: " + name);
@@ -315,7 +393,7 @@ public final class LanguageTest {
                 }
             }
             open.remove(element);
-            return deepest + (reaches(element, element, new java.util.HashSet<>()) ? 0 : 1);
+            return deepest + (reaches(element, element, new HashSet<>()) ? 0 : 1);
         }
 
         private boolean reaches(Element from, Element to, Set<Element> seen) {
@@ -331,7 +409,9 @@ public final class LanguageTest {
             due.holds("rule 11, some twelve classes: " + classes, classes <= 14);
             Set<String> publicNames = new TreeSet<>();
             for (Element element : calls.keySet()) {
-                int depth = depth(element, new java.util.HashSet<>());
+                int depth = depth(element, new HashSet<>());
+                due.holds("rule 6, a throw and a try in " + element,
+                    !trying.contains(element) || !throwers.contains(element));
                 due.holds("rule 11, calls " + depth + " deep from " + element, depth <= 8);
                 if (element.getModifiers().contains(Modifier.PUBLIC)) {
                     publicNames.add("" + element.getSimpleName());
